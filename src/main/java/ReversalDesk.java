@@ -588,7 +588,7 @@ public final class ReversalDesk {
 
         /**
          * The theorem of Hannenhalli and Pevzner. Its one further case, the fortress, needs three
-         * hurdles that each shield another bad part: more genes than six.
+         * hurdles at least; a bad part has three gray lines or more, so six genes have two at most.
          */
         int fewestReversals() {
             return lines - countCycles() + countHurdles();

@@ -28,7 +28,8 @@ public final class DrawingTest {
         far(6, "-6 -5 -4 -3 -2 -1", "1 2 3 4 5 6", 1);
         // Two hurdles side by side, and one inside the other.
         far(5, "2 1 3 5 4", "1 2 3 4 5", 6);
-        far(6, "5 2 1 3 4 6", "5 1 2 3 4 6", 3);
+        far(5, "2 4 3 5 1", "1 2 3 4 5", 6);
+        far(5, "5 1 3 2 4", "1 2 3 4 5", 6);
     }
 
     private static void far(int genes, String first, String second, int due) {
@@ -62,9 +63,11 @@ public final class DrawingTest {
         drawn(2, "-2 -1", "1 2", 2, 2, 0, 0, 2, 2);
         // Ends 0 3 4 1 2 5 6 9 10 7 8 11: the lines of 2 1 twice, side by side.
         drawn(5, "2 1 3 5 4", "1 2 3 4 5", 2, 2, 2, 2, 0, 6);
-        // The same two orders under other names: what is drawn is the relative row.
+        // One inside the other: the outer one stands together only because the last spot is beside the first.
+        drawn(5, "2 4 3 5 1", "1 2 3 4 5", 2, 2, 2, 2, 0, 6);
+        // 2 1 3 5 4 under other names and signs: what is drawn is the relative row.
         drawn(5, "-1 4 3 2 5", "4 -1 3 5 2", 2, 2, 2, 2, 0, 6);
-        // -1 behind -2 is adjacent, 2 behind -1 is not.
+        // -1 behind -2 is adjacent, -2 behind 0 and 3 behind -1 are not.
         drawn(3, "-2 -1 3", "1 2 3", 3, 3, 0, 0, 2, 2);
     }
 

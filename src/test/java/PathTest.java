@@ -18,7 +18,7 @@ public final class PathTest {
         leads(1, "-1", "1", 0);
         leads(2, "1 2", "1 2");
         leads(2, "-2 -1", "1 2", 1);
-        // The places 0 alone come first: -2 1, then -2 -1 turns into 1 2.
+        // By -2 1 and -1 2: a reversal of place 0 alone comes before one of 0..1.
         leads(2, "2 1", "1 2", 0, 1, 0);
         leads(3, "-1 -2 -3", "1 2 3", 0, 11, 22);
         leads(6, "-6 -5 -4 -3 -2 -1", "1 2 3 4 5 6", 5);
