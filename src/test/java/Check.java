@@ -1,6 +1,8 @@
 /** Counts the answers of one test that are not as due, and helps to lay orders into slots. */
 final class Check {
     private final String test;
+    private String sentence = "";
+    private int madeForSentence = 1;
     private int made = 0;
     private int wrong = 0;
 
@@ -8,20 +10,44 @@ final class Check {
         this.test = test;
     }
 
-    void same(String what, long got, long due) {
-        made++;
-        if (got != due) {
+    /** What is checked from here on is checked for a sentence of the document; none goes without a check. */
+    void sentence(String quoted) {
+        endSentence();
+        sentence = quoted;
+        madeForSentence = 0;
+    }
+
+    private void endSentence() {
+        if (madeForSentence == 0) {
             wrong++;
-            System.out.println(test + ": " + what + " answered " + got + ", due is " + due);
+            System.out.println(test + ": nothing is checked for " + sentence);
         }
     }
 
-    void same(String what, String got, String due) {
+    private void count(boolean right, String what, Object got, Object due) {
         made++;
-        if (!got.equals(due)) {
+        madeForSentence++;
+        if (!right) {
             wrong++;
-            System.out.println(test + ": " + what + " answered " + got + ", due is " + due);
+            String where = sentence.isEmpty() ? "" : " [" + sentence + "]";
+            System.out.println(test + where + ": " + what + " answered " + got + ", due is " + due);
         }
+    }
+
+    void same(String what, long got, long due) {
+        count(got == due, what, got, due);
+    }
+
+    void same(String what, String got, String due) {
+        count(got.equals(due), what, got, due);
+    }
+
+    void yes(String what, boolean got) {
+        count(got, what, got, true);
+    }
+
+    void no(String what, boolean got) {
+        count(!got, what, got, false);
     }
 
     void outOfBounds(String what, Runnable call) {
@@ -41,6 +67,7 @@ final class Check {
     }
 
     void end() {
+        endSentence();
         System.out.println(test + ": " + made + " checks, " + wrong + " wrong");
         if (wrong != 0 || made == 0) {
             System.exit(1);

@@ -8,11 +8,28 @@ import java.util.TreeSet;
 
 /** The public face: what the document lists, and nothing beside it. */
 public final class FaceTest {
+    private static final String BOUNDS = " IndexOutOfBoundsException";
+    private static final String ARGUMENT = " IllegalArgumentException";
+    private static final String STATE = " IllegalStateException";
+    private static final String UNSUPPORTED = " UnsupportedOperationException";
     private static final String[] METHODS = {
-        "boolean undo(int)", "int circle(int,int)", "int distance(int,int)", "int drawing(int,int,int)",
-        "int gene(int,int)", "int interval(int,int,int)", "int line(int,int,int)", "int median(int,int,int)",
-        "int read(int)", "int scenario(int,int)", "int step(int)", "int wipe()", "int write(long)",
-        "long ways(int,int)", "void copy(int,int)", "void genes(int)", "void reverse(int,int,int)",
+        "void genes(int)" + ARGUMENT,
+        "int write(long)",
+        "int wipe()",
+        "int read(int)" + BOUNDS,
+        "int gene(int,int)" + BOUNDS,
+        "void copy(int,int)" + BOUNDS,
+        "void reverse(int,int,int)" + BOUNDS,
+        "boolean undo(int)" + BOUNDS,
+        "int distance(int,int)" + BOUNDS,
+        "int drawing(int,int,int)" + BOUNDS + ARGUMENT,
+        "int line(int,int,int)" + BOUNDS + ARGUMENT,
+        "int interval(int,int,int)" + BOUNDS,
+        "int scenario(int,int)" + BOUNDS,
+        "int step(int)" + STATE + ARGUMENT,
+        "long ways(int,int)" + BOUNDS + UNSUPPORTED,
+        "int circle(int,int)" + BOUNDS + UNSUPPORTED,
+        "int median(int,int,int)" + BOUNDS + UNSUPPORTED,
     };
 
     public static void main(String[] args) {
@@ -38,7 +55,11 @@ public final class FaceTest {
                 for (Class<?> type : method.getParameterTypes()) {
                     types.append(types.length() == 0 ? "" : ",").append(type);
                 }
-                seen.add(method.getReturnType() + " " + method.getName() + "(" + types + ")");
+                StringBuilder thrown = new StringBuilder();
+                for (Class<?> type : method.getExceptionTypes()) {
+                    thrown.append(' ').append(type.getSimpleName());
+                }
+                seen.add(method.getReturnType() + " " + method.getName() + "(" + types + ")" + thrown);
             }
         }
         return seen;
