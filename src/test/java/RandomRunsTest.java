@@ -1,3 +1,6 @@
+import java.util.ArrayList;
+import java.util.Collections;
+import java.util.List;
 import java.util.Random;
 import java.util.function.Supplier;
 
@@ -5,14 +8,17 @@ import java.util.function.Supplier;
 public final class RandomRunsTest {
     private static final Check CHECK = new Check("RandomRunsTest");
     private static final int RUNS = 400;
-    // A desk answers for 512 calls, and some kinds here make up to four of them.
-    private static final int CALLS = 400;
+    // So many calls an object is used for.
+    private static final int CALLS = 512;
+    // An order is laid into a slot by a wipe, up to three writes and a read.
+    private static final int CALLS_TO_LAY = 5;
     private static final String CHARACTERS = "  +-+-123456123412312107x";
 
     private final Random random;
     private final ReversalDesk desk = new ReversalDesk();
     private final ModelDesk model = new ModelDesk();
     private int genes = 4;
+    private int called = 0;
 
     private RandomRunsTest(int seed) {
         random = new Random(seed);
@@ -21,14 +27,16 @@ public final class RandomRunsTest {
     public static void main(String[] args) {
         for (int seed = 0; seed < RUNS; seed++) {
             RandomRunsTest run = new RandomRunsTest(seed);
-            for (int call = 0; call < CALLS; call++) {
-                run.call("run " + seed + ", call " + call);
+            while (run.called < CALLS) {
+                run.call("run " + seed + ", call " + run.called);
             }
+            CHECK.same("calls of run " + seed, run.called, CALLS);
         }
         CHECK.end();
     }
 
-    private static String answer(Supplier<Object> call) {
+    private String answer(Supplier<Object> call) {
+        called++;
         try {
             return "" + call.get();
         } catch (RuntimeException e) {
@@ -36,7 +44,8 @@ public final class RandomRunsTest {
         }
     }
 
-    private static String done(Runnable call) {
+    private String done(Runnable call) {
+        called++;
         String thrown = Check.thrownBy(call);
         return thrown.equals("nothing") ? "done" : thrown;
     }
@@ -62,10 +71,10 @@ public final class RandomRunsTest {
 
     /** An order of the right length with signs and blanks, sometimes with a character changed. */
     private String orderText() {
+        List<Integer> numbers = new ArrayList<>(Model.plain(genes));
+        Collections.shuffle(numbers, random);
         StringBuilder order = new StringBuilder();
-        int from = random.nextInt(genes);
-        for (int k = 0; k < genes; k++) {
-            int gene = (from + k * (genes == 5 ? 2 : 1)) % genes + 1;
+        for (int gene : numbers) {
             order.append(new String[] {"", "+", "-", " ", " -"}[random.nextInt(5)]).append(gene);
         }
         if (random.nextInt(4) == 0) {
@@ -101,9 +110,8 @@ public final class RandomRunsTest {
                 CHECK.same(where + " write " + characters, answer(() -> desk.write(characters)), model.write(characters));
                 break;
             case 2:
-                CHECK.same(where + " wipe", answer(desk::wipe), model.wipe());
-                for (long packed : Check.packed(orderText())) {
-                    CHECK.same(where + " write " + packed, answer(() -> desk.write(packed)), model.write(packed));
+                if (called + CALLS_TO_LAY <= CALLS) {
+                    callsThatLay(where, a);
                 }
                 break;
             case 3:
@@ -119,6 +127,14 @@ public final class RandomRunsTest {
                 CHECK.same(where + " reverse " + a + " " + i + " " + j, done(() -> desk.reverse(a, i, j)), model.reverse(a, i, j));
                 break;
         }
+    }
+
+    private void callsThatLay(String where, int slot) {
+        CHECK.same(where + " wipe", answer(desk::wipe), model.wipe());
+        for (long packed : Check.packed(orderText())) {
+            CHECK.same(where + " write " + packed, answer(() -> desk.write(packed)), model.write(packed));
+        }
+        CHECK.same(where + " read " + slot, answer(() -> desk.read(slot)), model.read(slot));
     }
 
     private void callThatAsks(String where, int kind, int a, int b) {
